@@ -377,8 +377,7 @@ public final class PolyominoCover {
             return INVALID_ARGUMENT;
         }
         placeAll();
-        weights.weigh(problem, a, b, m);
-        return weights.excludeCover(problem, placements) ? 1 : 0;
+        return weights.excludeCover(problem, placements, a, b, m) ? 1 : 0;
     }
 
     public int proof() {
@@ -386,8 +385,7 @@ public final class PolyominoCover {
         for (int m = LEAST_MODULUS; m <= MOST_MODULUS; m++) {
             for (int a = 0; a < m; a++) {
                 for (int b = 0; b < m; b++) {
-                    weights.weigh(problem, a, b, m);
-                    if (weights.excludeCover(problem, placements)) {
+                    if (weights.excludeCover(problem, placements, a, b, m)) {
                         return 100 * m + 10 * a + b;
                     }
                 }
@@ -816,7 +814,7 @@ public final class PolyominoCover {
             int left = problem.columnOf(corner);
             int top = problem.rowOf(corner);
             long mask = 0;
-            for (int square = 0; square < GRID_SQUARES; square++) {
+            for (int square = 0; square < GRID_SQUARES && shape >>> square != 0; square++) {
                 if (Shapes.hasSquare(shape, square)) {
                     int x = left + square % GRID_SIDE;
                     int y = top + square / GRID_SIDE;
@@ -831,18 +829,25 @@ public final class PolyominoCover {
             return mask;
         }
 
+        /** Counts first; then each start moves down from the end of its part of the order. */
         private void fillOrder() {
-            int filled = 0;
-            for (int cell = 0; cell < MOST_CELLS; cell++) {
-                put(starts, cell, filled);
-                for (int placement = 0; placement < size; placement++) {
-                    if (smallestCell(maskOf(placement)) == cell) {
-                        put(order, filled, placement);
-                        filled++;
-                    }
-                }
+            for (int cell = 0; cell < starts.length; cell++) {
+                starts[cell] = 0;
             }
-            put(starts, MOST_CELLS, filled);
+            for (int placement = 0; placement < size; placement++) {
+                int cell = smallestCell(maskOf(placement));
+                put(starts, cell, at(starts, cell) + 1);
+            }
+            int end = 0;
+            for (int cell = 0; cell < starts.length; cell++) {
+                end += starts[cell];
+                starts[cell] = end;
+            }
+            for (int placement = size - 1; placement >= 0; placement--) {
+                int cell = smallestCell(maskOf(placement));
+                put(starts, cell, at(starts, cell) - 1);
+                put(order, at(starts, cell), placement);
+            }
         }
 
         long maskOf(int placement) {
@@ -919,15 +924,6 @@ public final class PolyominoCover {
             return at(images, symmetry * MOST_CELLS + cell);
         }
 
-        long imageOfMask(int symmetry, long mask) {
-            long image = 0;
-            for (int cell = 0; cell < MOST_CELLS; cell++) {
-                if (holds(mask, cell)) {
-                    image |= 1L << imageOf(symmetry, cell);
-                }
-            }
-            return image;
-        }
     }
 
     /**
@@ -1037,7 +1033,8 @@ public final class PolyominoCover {
             int end = at(placements.starts, cell + 1);
             for (int place = at(next, level); place < end; place++) {
                 int placement = at(placements.order, place);
-                if (fits(placement)) {
+                long mask = placements.maskOf(placement);
+                if ((mask & taken) == 0 && isAllowed(placements.pieceOf(placement), mask)) {
                     put(next, level, place + 1);
                     return placement;
                 }
@@ -1045,12 +1042,7 @@ public final class PolyominoCover {
             return NO_PLACEMENT;
         }
 
-        private boolean fits(int placement) {
-            long mask = placements.maskOf(placement);
-            if ((mask & taken) != 0) {
-                return false;
-            }
-            int piece = placements.pieceOf(placement);
+        private boolean isAllowed(int piece, long mask) {
             if (at(copiesLeft, piece) == 0) {
                 return false;
             }
@@ -1085,7 +1077,7 @@ public final class PolyominoCover {
             for (int step = 0; step < level; step++) {
                 int placement = at(chosen, step);
                 long mask = placements.maskOf(placement);
-                for (int cell = 0; cell < MOST_CELLS; cell++) {
+                for (int cell = smallestCell(mask); cell < MOST_CELLS; cell++) {
                     if (holds(mask, cell)) {
                         put(rows, start + cell, placement);
                     }
@@ -1189,14 +1181,18 @@ public final class PolyominoCover {
             return false;
         }
 
+        /**
+         * Tells whether a symmetry maps one cover to another. Placements of one piece have the same
+         * number of cells, so it is enough that the cells of each get into the same placement.
+         */
         private boolean isMapped(int symmetry, int first, int second) {
             for (int cell = 0; cell < MOST_CELLS; cell++) {
                 int placement = placementAt(first, cell);
-                if (beginsAt(placement, cell)) {
-                    int image = placementAt(second, symmetries.imageOf(symmetry, cell));
-                    if (placements.pieceOf(placement) != placements.pieceOf(image)
-                            || symmetries.imageOfMask(symmetry, placements.maskOf(placement))
-                                    != placements.maskOf(image)) {
+                if (placement != NO_PLACEMENT) {
+                    int begin = smallestCell(placements.maskOf(placement));
+                    int image = placementAt(second, symmetries.imageOf(symmetry, begin));
+                    if (image != placementAt(second, symmetries.imageOf(symmetry, cell))
+                            || placements.pieceOf(image) != placements.pieceOf(placement)) {
                         return false;
                     }
                 }
@@ -1221,7 +1217,7 @@ public final class PolyominoCover {
 
         private boolean strikeSome(Placements placements) {
             boolean some = false;
-            for (int placement = 0; isLeftToSee(placements, placement); placement++) {
+            for (int placement = 0; placement < limitOf(placements); placement++) {
                 if (!struck[placement] && !leavesAllCoverable(placements, placement)) {
                     struck[placement] = true;
                     some = true;
@@ -1230,20 +1226,18 @@ public final class PolyominoCover {
             return some;
         }
 
-        private static boolean isLeftToSee(Placements placements, int placement) {
-            return placement < placements.size && placement < MOST_PLACEMENTS;
+        private int limitOf(Placements placements) {
+            return Math.min(placements.size, struck.length);
         }
 
         private boolean leavesAllCoverable(Placements placements, int placement) {
             long mask = placements.maskOf(placement);
             long coverable = mask;
-            for (int other = 0; isLeftToSee(placements, other); other++) {
+            int limit = limitOf(placements);
+            for (int other = 0; other < limit && coverable != placements.open; other++) {
                 long otherMask = placements.maskOf(other);
                 if (!struck[other] && (otherMask & mask) == 0) {
                     coverable |= otherMask;
-                    if (coverable == placements.open) {
-                        return true;
-                    }
                 }
             }
             return coverable == placements.open;
@@ -1251,7 +1245,7 @@ public final class PolyominoCover {
 
         int leftOfPiece(Placements placements, int piece) {
             int sum = 0;
-            for (int placement = 0; isLeftToSee(placements, placement); placement++) {
+            for (int placement = 0; placement < limitOf(placements); placement++) {
                 if (!struck[placement] && placements.pieceOf(placement) == piece) {
                     sum++;
                 }
@@ -1261,7 +1255,7 @@ public final class PolyominoCover {
 
         int leftAtCell(Placements placements, int cell) {
             int sum = 0;
-            for (int placement = 0; isLeftToSee(placements, placement); placement++) {
+            for (int placement = 0; placement < limitOf(placements); placement++) {
                 if (!struck[placement] && holds(placements.maskOf(placement), cell)) {
                     sum++;
                 }
@@ -1273,37 +1267,17 @@ public final class PolyominoCover {
     /** Proofs by weights; a set of sums modulo m is held as bits, bit s for the sum s. */
     private static final class Weights {
         private final int[] ofCells = new int[MOST_CELLS];
+        private final int[] ofPieces = new int[MOST_PIECES];
         private int modulus = LEAST_MODULUS;
 
-        void weigh(Problem problem, int a, int b, int m) {
+        boolean excludeCover(Problem problem, Placements placements, int a, int b, int m) {
             modulus = m;
-            for (int cell = 0; cell < MOST_CELLS; cell++) {
-                ofCells[cell] = rest(a * problem.columnOf(cell) + b * problem.rowOf(cell));
-            }
-        }
-
-        private int rest(int sum) {
-            return modulus > 0 ? sum % modulus : 0;
-        }
-
-        private int weightOf(long mask) {
-            int sum = 0;
-            for (int cell = 0; cell < MOST_CELLS; cell++) {
-                if (holds(mask, cell)) {
-                    sum += ofCells[cell];
-                }
-            }
-            return rest(sum);
-        }
-
-        boolean excludeCover(Problem problem, Placements placements) {
+            weighCells(problem, a, b);
+            weighPieces(placements);
             int sums = 1;
             for (int piece = 0; piece < problem.pieceCount; piece++) {
-                int steps = weightsOfPiece(placements, piece);
-                if (problem.mode == 0) {
-                    // A copy that is left out adds nothing.
-                    steps |= 1;
-                }
+                // With the mode 0 a copy may be left out, which adds nothing.
+                int steps = at(ofPieces, piece) | (problem.mode == 0 ? 1 : 0);
                 for (int copy = 0; copy < problem.copiesOf(piece); copy++) {
                     sums = addAll(sums, steps);
                 }
@@ -1311,14 +1285,35 @@ public final class PolyominoCover {
             return (sums >>> weightOf(placements.open) & 1) == 0;
         }
 
-        private int weightsOfPiece(Placements placements, int piece) {
-            int set = 0;
+        private void weighCells(Problem problem, int a, int b) {
+            for (int cell = 0; cell < ofCells.length; cell++) {
+                ofCells[cell] = rest(a * problem.columnOf(cell) + b * problem.rowOf(cell));
+            }
+        }
+
+        private void weighPieces(Placements placements) {
+            for (int piece = 0; piece < ofPieces.length; piece++) {
+                ofPieces[piece] = 0;
+            }
             for (int placement = 0; placement < placements.size; placement++) {
-                if (placements.pieceOf(placement) == piece) {
-                    set |= 1 << weightOf(placements.maskOf(placement));
+                int piece = placements.pieceOf(placement);
+                int weight = weightOf(placements.maskOf(placement));
+                put(ofPieces, piece, at(ofPieces, piece) | 1 << weight);
+            }
+        }
+
+        private int weightOf(long mask) {
+            int sum = 0;
+            for (int cell = smallestCell(mask); cell < MOST_CELLS && mask >>> cell != 0; cell++) {
+                if (holds(mask, cell)) {
+                    sum += at(ofCells, cell);
                 }
             }
-            return set;
+            return rest(sum);
+        }
+
+        private int rest(int sum) {
+            return modulus > 0 ? sum % modulus : 0;
         }
 
         private int addAll(int sums, int steps) {
