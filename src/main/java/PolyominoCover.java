@@ -923,7 +923,6 @@ public final class PolyominoCover {
         int imageOf(int symmetry, int cell) {
             return at(images, symmetry * MOST_CELLS + cell);
         }
-
     }
 
     /**
