@@ -8,7 +8,7 @@ public final class CoverBoundaryTest extends Boundaries {
      * overlap, for no copy is left, for the rule forbids it; in the last scene each one fits.
      */
     private static final Scene[] JUST_FINISHED = {
-        new Scene(0, "....../....../......|ox5|o../ooomc3x5|o/o/otc2x7", 3320),
+        new Scene(0, "....../....../......|o/o/omc1x6|omc1x5|o../ooomx8", 3320),
         new Scene(0, "...../...../.....|ox7|otc1x2|o/otc1x2", 0),
         new Scene(1, "#.../..../..../..../....|o/omx9|ootc2x6|ootc1", 0),
         new Scene(1, "....../....../...#..|o/omx5|omx5|oo/ootc1x9", 3629),
@@ -134,11 +134,17 @@ public final class CoverBoundaryTest extends Boundaries {
         String[] texts = {"..|ooc1", "..|oc1x2", "..|oc3x2", "..|oc1|oc1", "..|oc3|oc3",
             "..|oc1|oc2", "..|oc2|oc3", "..|oc1|o", "..|o|o", "..|ox2", "../..|oo/ooc1",
             "../..|ooc1x2", "../..|ooc1|ooc2", "../..|o/oc1x2", ".#/#.|oc1x2", "1.1|oc1x2|oc2",
-            "1.1|oc1x3", "1#1|oc1x2"};
+            "1.1|oc1x3", "1#1|oc1x2",
+            // What is there already touches from the left, from above, from below, from the right.
+            "..|oc1|oc1", "./.|oc1|oc1", ".../...|o../oooc1|oc2|oc1", "#.#/..#|o/oc1|oc1",
+            // It does not touch at all, though its numbers are as near.
+            "#../.##|ooc1|oc1", "#.#/..#|o/oc2|oc1"};
         int[] ruled = {1, 0, 0, 0, 0,
             2, 2, 2, 2, 1, 1,
             0, 2, 0, 1, 1,
-            0, 1};
+            0, 1,
+            0, 0, 0, 0,
+            1, 1};
         for (int i = 0; i < texts.length; i++) {
             fresh(texts[i]);
             int free = bench.call("covers");
@@ -353,7 +359,7 @@ public final class CoverBoundaryTest extends Boundaries {
         unchanged(INVALID, "coverAt", MIN, 0);
         // The covers 99, 100, 101 and the last one, back and forth.
         fresh(BITS);
-        for (int cover : new int[] {100, 99, 101, 0, 255, 100, 254, 128}) {
+        for (int cover : new int[] {100, 99, 101, 100, 0, 255, 254, 100, 128}) {
             for (int cell = 0; cell < 8; cell++) {
                 due(cell + 8 * (cover >> 7 - cell & 1), "coverAt", cover, cell);
             }
@@ -367,6 +373,12 @@ public final class CoverBoundaryTest extends Boundaries {
         due(0, "coverAt", 0, 0);
         due(62, "coverAt", 0, 35);
         range(1, 0, 35, "coverAt", 0, 0);
+        // The last cells of the greatest board, in many covers.
+        fresh("######/######/######/######/##..../##....|ox8|ox8");
+        for (int cover : new int[] {100, 101, 99, 100, 0, 1, 255}) {
+            due(7 + 8 * (cover & 1), "coverAt", cover, 35);
+            due(8 * (cover >> 7), "coverAt", cover, 26);
+        }
 
         say(20, "Returns which placement contains a cell in a cover.");
         fresh("#../...|oootx2|oo");
@@ -421,7 +433,7 @@ public final class CoverBoundaryTest extends Boundaries {
     private static void uses() {
         say(21, "`cover`: number of a cover");
         fresh(BITS);
-        for (int cover : new int[] {0, 99, 100, 101, 255}) {
+        for (int cover : new int[] {0, 99, 100, 99, 101, 255, 254, 99}) {
             due(Integer.bitCount(cover), "used", cover, 1);
         }
         unchanged(INVALID, "used", -1, 0);

@@ -366,6 +366,14 @@ public final class PieceBoundaryTest extends Boundaries {
         due(NONE, "form", 2, 1);
         bench.call("removePiece", 2);
         due(INVALID, "form", 2, 0);
+        // Nor do those of a piece stay when another one gets its number.
+        bench.call("setMode", 1);
+        bench.call("removePiece", 0);
+        bench.call("removePiece", 0);
+        bench.call("addPiece", 3, 1, 0);
+        due(3, "form", 0, 0);
+        due(0x11, "form", 0, 1);
+        due(NONE, "form", 0, 2);
     }
 
     /** For all shapes: forms ascend, each is there once, and their number divides 8. */

@@ -34,6 +34,11 @@ public final class ProofBoundaryTest extends Boundaries {
         usefulIsDue("...|oo|o", 2, 3);
         usefulIsDue("....|ooo|o", 2, 4);
         usefulIsDue("....|ooo|oo", 0, 2);
+        // The longer the chain, the more rounds: one is struck out for those struck out before.
+        usefulIsDue(".../..#|ooo|oom", 1, 1);
+        usefulIsDue("##./.../...|ooo|oot", 1, 2);
+        usefulIsDue("...#./...../.....|oot|oo/o.", 4, 2);
+        usefulIsDue("...../..#../.#.../...../..#.#/.....|o/om", 15);
 
         say(DESCRIPTION, "(Copies and the rule play no part.)");
         fresh("....|ooc1");

@@ -123,6 +123,8 @@ public final class TextBoundaryTest extends Boundaries {
             due(new int[] {1, 0, 0, 1}[what], "piece", 0, what);
         }
         due(INVALID, "piece", 1, 0);
+        nothingStays(0);
+        nothingStays(1);
 
         say(17, "The text becomes empty.");
         bench.append("..");
@@ -161,6 +163,60 @@ public final class TextBoundaryTest extends Boundaries {
             due(new int[] {1, 0, 0, 1}[what], "piece", 0, what);
             due(new int[] {1, 0, 0, 1}[what], "piece", 1, what);
         }
+    }
+
+    /** After each of these problems, each other one is answered as by a new object. */
+    private static void nothingStays(int rule) {
+        String[] texts = {"./././././.|oc1x6", "..|oc1x2", "#.#/..#|o/oc1|oc1", "...|oo", "....|oo",
+            ".../...|o../oooc1|oc2|oc1", "..|o|o", "#.|o|o", "../..|ootx2", "##/##|oo", ".",
+            "1./.2|oc1|oc2|ox2", "../..|ox4|ox4|ox4|oox2", "...#|oom"};
+        for (String first : texts) {
+            for (String second : texts) {
+                fresh();
+                bench.call("setRule", rule);
+                bench.append(second);
+                bench.call("load");
+                String alone = answers();
+                fresh();
+                bench.call("setRule", rule);
+                bench.append(first);
+                bench.call("load");
+                answers();
+                bench.append(second);
+                bench.call("load");
+                if (!answers().equals(alone)) {
+                    fail("something of " + first + " stays when " + second + " is loaded");
+                }
+            }
+        }
+    }
+
+    private static String answers() {
+        StringBuilder all = new StringBuilder();
+        for (String name : new String[] {"covers", "tries", "classes", "fewest", "proof"}) {
+            all.append(bench.call(name)).append(' ');
+        }
+        for (int what = 0; what <= 8; what++) {
+            all.append(bench.call("count", what)).append(' ');
+        }
+        for (int cell = bench.call("count", 0) * bench.call("count", 1) - 1; cell >= 0; cell--) {
+            all.append(bench.call("colour", cell)).append(' ');
+            all.append(bench.call("usefulAt", cell)).append(' ');
+            all.append(bench.call("coverAt", 0, cell)).append(' ');
+            all.append(bench.call("coverAt", 1, cell)).append(' ');
+        }
+        for (int piece = bench.call("count", 3) - 1; piece >= 0; piece--) {
+            for (int what = 0; what <= 6; what++) {
+                all.append(bench.call("piece", piece, what)).append(' ');
+            }
+            all.append(bench.call("form", piece, 0)).append(' ');
+            all.append(bench.call("used", 1, piece)).append(' ');
+            all.append(bench.call("useful", piece)).append(' ');
+        }
+        for (int cover = 0; cover < 3; cover++) {
+            all.append(bench.call("alike", 1, cover)).append(' ');
+        }
+        return all.append(bench.call("placement", 1, 4)).toString();
     }
 
     private static void boards() {
