@@ -30,6 +30,9 @@ public final class CoverBoundaryTest extends Boundaries {
     /** As many placements as there can be in a cover, and only one way to put them. */
     private static final String LONGEST_COVER = "111111/111222/222222/333333/333.../......"
             + "|oc1x9|oc2x9|oc3x9|ox9";
+    /** Pieces with 160 placements each; the search is unfinished, but finds covers till then. */
+    private static final String MOST_PLACEMENTS = "....../....../....../....../....../......"
+            + "|ooo/oo.m|ooo/o..mx3|ooo/o..m|ooo/o..mx2|ooo/o..mx2|ooo/o..mx3|ooo/oo.mx3|ooo/o..m";
     /** The cover c has at each cell the piece that the bit of c tells, the first cell the highest. */
     private static final String BITS = "..../....|ox8|ox8";
 
@@ -383,6 +386,14 @@ public final class CoverBoundaryTest extends Boundaries {
         say(20, "Returns which placement contains a cell in a cover.");
         fresh("#../...|oootx2|oo");
         coverIsDue(0, NONE, 1, 1, 0, 0, 0);
+        // As many placements as there can be, and the last one by its smallest cell is in a cover.
+        fresh(MOST_PLACEMENTS);
+        due(1280, "count", 7);
+        int[] onLastCell = {1099, 1099, 1099, 1099, 399, 559, 719, 879, 1199, 1099, 1099, 1099,
+            UNFINISHED};
+        for (int cover = 0; cover < onLastCell.length; cover++) {
+            due(onLastCell[cover], "coverAt", cover, 35);
+        }
 
         say(20, "Returns the number of the placement; INVALID_ARGUMENT if cover is negative or there"
                 + " is no such cell; UNFINISHED if the search is unfinished before this cover is"
@@ -587,8 +598,12 @@ public final class CoverBoundaryTest extends Boundaries {
     private static void fewests() {
         say(24, "Finds the least number of placements in a cover.");
         String[] texts = {"#", "#|o", ".|o", "..|ox2", "..|ox2|oo", "..|oo|ox2", "....|ox4|oo|oooo",
-            "....|oooo|oo|ox4", "....|ox4|oo|ooo", LONGEST_COVER};
-        int[] numbers = {0, 0, 1, 2, 1, 1, 1, 1, 2, 36};
+            "....|oooo|oo|ox4", "....|ox4|oo|ooo", LONGEST_COVER,
+            // The one in the middle has the fewest; a try that leads nowhere goes ahead.
+            "...|ox2|ooo|oo", "...|oo|ooo"};
+        int[] numbers = {0, 0, 1, 2, 1, 1, 1,
+            1, 2, 36,
+            1, 1};
         for (int i = 0; i < texts.length; i++) {
             fresh(texts[i]);
             expect(numbers[i], bench.call("fewest"), "fewest() of " + texts[i]);
